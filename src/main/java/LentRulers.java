@@ -731,7 +731,7 @@ public final class LentRulers {
         int read() {
             acts = 0;
             int state = AT_START;
-            for (int place = 0; place < count; place++) {
+            for (int place = 0; place < count && acts < MOST_SIGNS; place++) {
                 state = afterSign(state, signs[place]);
                 if (state == WRONG) {
                     return place;
@@ -740,7 +740,6 @@ public final class LentRulers {
             return state == AT_START ? NONE : count;
         }
 
-        // An act takes a sign at least, so that the act being read has room whenever a sign is left.
         private int afterSign(int state, int sign) {
             switch (state) {
                 case AT_START:
@@ -958,7 +957,10 @@ public final class LentRulers {
         }
     }
 
-    /** The laws that fit all sights: for each slope those from a least start to a most one, for a sight is one bound or both. */
+    /**
+     * The laws that fit all sights. A sight bounds the start of a slope from one side or from both,
+     * so the starts that fit a slope are always those from a least to a most one.
+     */
     private static final class Laws {
         private static final int SLOPES = 19;
         private static final int STEEPEST = 9;

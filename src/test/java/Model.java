@@ -609,6 +609,10 @@ final class Model {
         return n < 2 ? BigInteger.ONE : factorial(n - 1).multiply(BigInteger.valueOf(n));
     }
 
+    private static BigInteger power(int base, int times) {
+        return BigInteger.valueOf(base).pow(times);
+    }
+
     long shake(int n, int a, int b, int k, int part) {
         if (out(n, 0, 12) || out(a, 0, 10) || out(b, 0, 10) || a + b > 10 || out(k, 0, 12) || out(part, 0, 1)) {
             return LOST - 2;
@@ -618,9 +622,10 @@ final class Model {
             for (int more = 0; less + more <= n; more++) {
                 if (Math.abs(less - more) >= k) {
                     int same = n - less - more;
-                    BigInteger orders = factorial(n).divide(factorial(less)).divide(factorial(more)).divide(factorial(same));
-                    ways = ways.add(orders.multiply(BigInteger.valueOf(a).pow(less))
-                            .multiply(BigInteger.valueOf(b).pow(more)).multiply(BigInteger.valueOf(10 - a - b).pow(same)));
+                    BigInteger orders = factorial(n)
+                            .divide(factorial(less)).divide(factorial(more)).divide(factorial(same));
+                    ways = ways.add(orders.multiply(power(a, less)).multiply(power(b, more))
+                            .multiply(power(10 - a - b, same)));
                 }
             }
         }

@@ -11,9 +11,9 @@ final class ModelTest {
     private static final int RUNS = 1500;
     private static final int CALLS = 512;
     private static final int MOST_TOLD = 20;
-    private static final int[] EDGES = {Integer.MIN_VALUE, -1000000, -10, -9, -6, -2, -1, 0, 1, 2, 3, 4, 5, 6, 7, 8, 9,
-        10, 11, 12, 13, 20, 21, 32, 33, 60, 61, 98, 99, 100, 101, 126, 127, 199, 200, 201, 1800, 1801, 9998, 9999, 10000,
-        99998, 99999, 100000, 1000000, Integer.MAX_VALUE};
+    private static final int[] EDGES = {Integer.MIN_VALUE, -1000000, -10, -9, -6, -2, -1, 0, 1, 2, 3, 4, 5, 6, 7, 8,
+        9, 10, 11, 12, 13, 20, 21, 32, 33, 60, 61, 98, 99, 100, 101, 126, 127, 199, 200, 201, 1800, 1801, 9998, 9999,
+        10000, 99998, 99999, 100000, 1000000, Integer.MAX_VALUE};
 
     // What is drawn for each argument, from and to; the model refuses what its face refuses, so a bit beyond is fine.
     private static final Object[][] DRAWN = {
@@ -224,7 +224,8 @@ final class ModelTest {
         for (int k = 1; k <= 9; k++) {
             for (int n = 0; n <= 200; n++) {
                 for (int what = 0; what < 2; what++) {
-                    CHECKS.due("halves(" + n + ", " + k + ", " + what + ")", real.halves(n, k, what), model.halves(n, k, what));
+                    String call = "halves(" + n + ", " + k + ", " + what + ")";
+                    CHECKS.due(call, real.halves(n, k, what), model.halves(n, k, what));
                 }
             }
         }
@@ -268,7 +269,8 @@ final class ModelTest {
             Model model = new Model();
             StringBuilder ring = new StringBuilder(" of");
             for (int one = 0; one < 6; one++) {
-                int ruler = random.nextInt(4) == 0 ? 0 : random.nextBoolean() ? 1 + random.nextInt(200) : 198 + random.nextInt(3);
+                int drawn = random.nextBoolean() ? 1 + random.nextInt(200) : 198 + random.nextInt(3);
+                int ruler = random.nextInt(4) == 0 ? 0 : drawn;
                 real.one(one, 0, 0, ruler);
                 model.one(one, 0, 0, ruler);
                 ring.append(' ').append(ruler);

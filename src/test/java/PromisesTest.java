@@ -209,8 +209,8 @@ final class PromisesTest {
             due("9 " + text, writing(text).fault(), text.length());
         }
         // In each of these it is the last sign that can not stand there, whatever follows.
-        String[] wrong = {"G", "a", "@", "1", "+", "x", "=", "(", "/", "!", "~", "AA", "A.", "A<", "A1", "AX", "A+0", "A+:",
-            "A+/", "A-0", "A-A", "A/8", "A//", "A/00", "A/0:", "A(4", "A(A", "A(00", "A)4", "A)00", "A)0.", "<0", "<:",
+        String[] wrong = {"G", "a", "@", "1", "+", "x", "=", "(", "/", "!", "~", "AA", "A.", "A<", "A1", "AX", "A+0",
+            "A+:", "A+/", "A-0", "A-A", "A/8", "A//", "A/00", "A/0:", "A(4", "A(A", "A(00", "A)4", "A)00", "A)0.", "<0", "<:",
             ">0", "><", "A=x", "A=1", "Ax=", "A+11", ".1", "A+1G"};
         for (String text : wrong) {
             due("9 " + text, writing(text).fault(), text.length() - 1);
@@ -275,6 +275,7 @@ final class PromisesTest {
     }
 
     private static void lastDay() {
+        // So many days take more than 512 calls; the class keeps to the document there all the same.
         LentRulers y = new LentRulers();
         for (int day = 0; day < 999; day += 27) {
             Checks.write(y, ".".repeat(27));
