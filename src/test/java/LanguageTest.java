@@ -13,11 +13,14 @@ import java.util.regex.Pattern;
 /** The rules of LANGUAGE.md that can be looked up in the source, or in the class that was compiled from it. */
 final class LanguageTest {
     private static final Checks CHECKS = new Checks("LanguageTest");
-    private static final String[] FORBIDDEN = {"->", "::", "\\btry\\b", "\\bcatch\\b", "\\bfinally\\b",
-        "\\bthrows?\\b", "\\bsynchronized\\b", "\\bassert\\b", "\\bvolatile\\b", "\\bnative\\b", "\\bdouble\\b", "\\bfloat\\b", 
-        "\\bvar\\b", "\\bpackage\\b", "\\bstatic\\s*\\{", "Exact\\b", "\\bRandom\\b", "System\\.(?!arraycopy)", "\\bThread\\b",
-        "\\bgetClass\\b", "\\btoString\\b", "\\bhashCode\\b", "\\bequals\\b", "\\binstanceof\\b", "while \\(true\\)",
-        "for \\(;;\\)"};
+    private static final String[] FORBIDDEN = {
+        "->", "::", "\\btry\\b", "\\bcatch\\b", "\\bfinally\\b", "\\bthrows?\\b", "\\bsynchronized\\b",
+        "\\bassert\\b", "\\bvolatile\\b", "\\bnative\\b", "\\bdouble\\b", "\\bfloat\\b", "\\bvar\\b",
+        "\\bpackage\\b", "\\bstatic\\s*\\{", "Exact\\b", "\\bRandom\\b", "System\\.(?!arraycopy)",
+        "\\bThread\\b", "\\bgetClass\\b", "\\btoString\\b", "\\bhashCode\\b", "\\bequals\\b",
+        "\\binstanceof\\b", "while \\(true\\)", "for \\(;;\\)"
+    };
+    private static final Set<String> LISTED = Set.of("java.util.Arrays", "java.util.ArrayList", "java.util.List");
     private static final int MOST_LINES = 60;
 
     public static void main(String[] args) throws Exception {
@@ -41,8 +44,7 @@ final class LanguageTest {
     private static void imports(String code) {
         Matcher matcher = Pattern.compile("import ([^;]+);").matcher(code);
         while (matcher.find()) {
-            boolean listed = Set.of("java.util.Arrays", "java.util.ArrayList", "java.util.List").contains(matcher.group(1));
-            CHECKS.holds("import " + matcher.group(1), listed);
+            CHECKS.holds("import " + matcher.group(1), LISTED.contains(matcher.group(1)));
         }
     }
 

@@ -209,9 +209,9 @@ final class PromisesTest {
             due("9 " + text, writing(text).fault(), text.length());
         }
         // In each of these it is the last sign that can not stand there, whatever follows.
-        String[] wrong = {"G", "a", "@", "1", "+", "x", "=", "(", "/", "!", "~", "AA", "A.", "A<", "A1", "AX", "A+0",
-            "A+:", "A+/", "A-0", "A-A", "A/8", "A//", "A/00", "A/0:", "A(4", "A(A", "A(00", "A)4", "A)00", "A)0.", "<0", "<:",
-            ">0", "><", "A=x", "A=1", "Ax=", "A+11", ".1", "A+1G"};
+        String[] wrong = {"G", "a", "@", "1", "+", "x", "=", "(", "/", "!", "~", "AA", "A.", "A<", "A1", "AX",
+            "A+0", "A+:", "A+/", "A-0", "A-A", "A/8", "A//", "A/00", "A/0:", "A(4", "A(A", "A(00", "A)4",
+            "A)00", "A)0.", "<0", "<:", ">0", "><", "A=x", "A=1", "Ax=", "A+11", ".1", "A+1G"};
         for (String text : wrong) {
             due("9 " + text, writing(text).fault(), text.length() - 1);
             due("9 " + text + "A+1", writing(text + "A+1").fault(), text.length() - 1);
