@@ -21,6 +21,8 @@ final class LanguageTest {
         "\\binstanceof\\b", "while \\(true\\)", "for \\(;;\\)"
     };
     private static final Set<String> LISTED = Set.of("java.util.Arrays", "java.util.ArrayList", "java.util.List");
+    private static final Set<String> LIBRARY = Set.of("Math.max", "Math.min", "Math.abs", "Math.floorMod",
+            "System.arraycopy", "Arrays.fill");
     private static final int MOST_LINES = 60;
 
     public static void main(String[] args) throws Exception {
@@ -31,6 +33,8 @@ final class LanguageTest {
             CHECKS.holds("no " + pattern, !Pattern.compile(pattern).matcher(code).find());
         }
         imports(code);
+        libraryCalls(code);
+        staticState(code);
         methodLengths(code);
         objectsOutsideConstructors(code);
         classes();
@@ -45,6 +49,25 @@ final class LanguageTest {
         Matcher matcher = Pattern.compile("import ([^;]+);").matcher(code);
         while (matcher.find()) {
             CHECKS.holds("import " + matcher.group(1), LISTED.contains(matcher.group(1)));
+        }
+    }
+
+    /** Rule 4: of the library only what it lists, and of that only what the class needs. */
+    private static void libraryCalls(String code) {
+        Matcher matcher = Pattern.compile("(?<![\\w.])([A-Z]\\w*\\.\\w+)\\(").matcher(code);
+        while (matcher.find()) {
+            CHECKS.holds("library call " + matcher.group(1), LIBRARY.contains(matcher.group(1)));
+        }
+    }
+
+    /** Rule 5: a static array is written out in its initialiser, and nothing is put into it. */
+    private static void staticState(String code) {
+        Matcher matcher = Pattern.compile("static final \\w+\\[\\] (\\w+) =([^;]*);").matcher(code);
+        while (matcher.find()) {
+            String name = matcher.group(1);
+            CHECKS.holds(name + " is written out", matcher.group(2).trim().startsWith("{"));
+            CHECKS.holds(name + " is only read",
+                    !Pattern.compile("\\b" + name + "\\[[^;]*?\\](?:\\+\\+|--| [-+*/|&^]?= )").matcher(code).find());
         }
     }
 
